@@ -315,7 +315,7 @@ public final class JobLoop {
         }
 
         int at(int i) {
-            return (int) valueAt(i);
+            return i >= 0 && i < cells.length ? (int) cells[i] : 0;
         }
 
         long valueAt(int i) {
@@ -451,19 +451,15 @@ public final class JobLoop {
                 return;
             }
             keyUsed.put(p, 1);
-            if (how == REJECTED || Value.sortOf(v) == NUMBER) {
-                settle(p, how, v);
-            } else if (v == Value.of(PROMISE, p)) {
-                settle(p, REJECTED, Value.of(NUMBER, ITSELF));
-            } else {
+            boolean withItself = how == FULFILLED && v == Value.of(PROMISE, p);
+            int outcome = withItself ? REJECTED : how;
+            if (outcome == FULFILLED && Value.sortOf(v) != NUMBER) {
                 adopted.put(p, v);
                 lineUp(jobOf(p, ADOPT), jobOf(p, ADOPT), 1);
+                return;
             }
-        }
-
-        private void settle(int p, int how, long v) {
-            status.put(p, how);
-            value.put(p, v);
+            status.put(p, outcome);
+            value.put(p, withItself ? Value.of(NUMBER, ITSELF) : v);
             lineUp(firstReaction.at(p), lastReaction.at(p), reactions.at(p));
             reactions.put(p, 0);
         }
@@ -893,7 +889,7 @@ public final class JobLoop {
             caller.put(r, NOBODY);
             current = r;
             xs.put(r, value);
-            if (how == REJECTED && !isCaught(r, place.at(r) - 1)) {
+            if (how == REJECTED && !leaveTry(r, place.at(r) - 1)) {
                 end(r, THROWS);
             }
         }
@@ -908,7 +904,7 @@ public final class JobLoop {
                 int outcome = at < functions.sizeOf(function.at(me)) ? doStep(me, at) : giveZero(me);
                 if (outcome == STOPS) {
                     stop(me);
-                } else if (outcome == GIVES || outcome == THROWS && !isCaught(me, at)) {
+                } else if (outcome == GIVES || outcome == THROWS && !leaveTry(me, at)) {
                     end(me, outcome);
                 }
             }
@@ -935,7 +931,9 @@ public final class JobLoop {
                 case CALL: xs.put(me, Value.of(PROMISE, begin(n, x))); break;
                 case RESOLVE: promises.settleBy(n, FULFILLED, x, FIRST_KEY); break;
                 case REJECT: promises.settleBy(n, REJECTED, x, FIRST_KEY); break;
-                case THEN: xs.put(me, Value.of(PROMISE, addHandlers(Value.numberOf(x), n, NO_FUNCTION))); break;
+                case THEN:
+                    xs.put(me, Value.of(PROMISE, addHandlers(Value.numberOf(x), n, NO_FUNCTION)));
+                    break;
                 case LATER: tasks.add(n, x, STEP_DELAY); break;
                 case IF: jumpIfZero(me, n); break;
                 case LESS: jumpIfAbove(me, n); break;
@@ -994,8 +992,8 @@ public final class JobLoop {
             return GIVES;
         }
 
-        /** If the STEP that THROWS lies in a TRY: it goes on behind that then. */
-        private boolean isCaught(int me, int at) {
+        /** Goes on behind the innermost TRY in which the STEP that THROWS lies; false if there is none. */
+        private boolean leaveTry(int me, int at) {
             int behind = functions.behindTry(function.at(me), at);
             if (behind == NOBODY) {
                 return false;
