@@ -1,10 +1,5 @@
 /** The promises 1 to 18 of the document, one after the other: ordinary inputs, edges, wrong inputs. */
-public final class JobLoopPromisesTest {
-    private static final int NUMBER = 0, PROMISE = 1, THENABLE = 2;
-    private static final int NOTE = 0, SHOW = 1, SET = 2, GIVE = 3, THROW = 4, AWAIT = 5, TRY = 6, END = 7;
-    private static final int CALL = 8, RESOLVE = 9, REJECT = 10, THEN = 11, LATER = 12, IF = 13, LESS = 14;
-    private static final int ALL = 0, RACE = 1, SETTLED = 2, ANY = 3;
-    private static final int BAD = -1, FULL = -2, PENDING = 0, FULFILLED = 1, REJECTED = 2;
+public final class JobLoopPromisesTest implements Words {
     private static final int[] WRONG = {-1, Integer.MIN_VALUE, Integer.MAX_VALUE};
 
     private static final Due due = new Due("JobLoopPromisesTest");
