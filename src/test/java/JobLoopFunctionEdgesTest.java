@@ -361,6 +361,7 @@ public final class JobLoopFunctionEdgesTest implements Words {
 
     private static void throwing() {
         awaitInOneThatIsDone();
+        faultsBeforeRoom();
         thenWithoutAPromise();
         promisesThatWereNotMade();
         tooManyTasks();
@@ -390,6 +391,16 @@ public final class JobLoopFunctionEdgesTest implements Words {
             x.run(1);
             x.is("one that is CALLED is STARTED", x.state(3, 7), 1);
         }
+    }
+
+    /** Nothing would be made, so that room does not matter. */
+    private static void faultsBeforeRoom() {
+        Probe x = about("-2, -3: also where a 101st PROMISE would be too much").with(100);
+        x.steps(0, TRY, 0, AWAIT, 0, END, 0, SHOW, 0).steps(1, TRY, 0, THEN, 0, END, 0, SHOW, 0);
+        x.later(0, NUMBER, 5, 0);
+        x.later(1, NUMBER, 5, 0);
+        x.run(60);
+        x.notes(-2, -3);
     }
 
     private static void thenWithoutAPromise() {
